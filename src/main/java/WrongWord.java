@@ -851,7 +851,10 @@ public final class WrongWord {
         }
     }
 
-    /** What the secret of tonight may be, and what men sent now would tell of it; a try is its word and hour in one number. */
+    /**
+     * What the secret of tonight may be, and what men sent now would tell of it; a man who is sent is his
+     * word and hour in one number, so that the least number is the first by words, then hours.
+     */
     private static final class Guesses {
         private static final int NEVER = 1000;
 

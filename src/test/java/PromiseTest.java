@@ -253,7 +253,7 @@ public final class PromiseTest {
         due("guard(0, 0)", x.guard(0, 0), 9);
         due("guard(1, 0)", x.guard(1, 0), 0);
         due("letter(0, 1)", x.letter(0, 1), 22);
-        x.say(0, 0);
+        due("the first guard takes one", x.say(1, 0), 1);
         x.nights(3);
         x.dismiss(0, 0);
         x.start(4);
@@ -553,6 +553,7 @@ public final class PromiseTest {
         due("there", x.guard(3, 2), 0);
         due("HOURS, dismissed or not", x.guard(3, 3), 8);
         due("HOURS", x.guard(0, 3), 1 + 16);
+        due("HOURS, 5 is the last", x.guard(2, 3), 4);
         x.nights(3);
         due("HOURS", x.guard(3, 3), 1 + 16);
         due("HOURS", x.guard(0, 3), 2 + 32);
@@ -764,6 +765,10 @@ public final class PromiseTest {
         x.dismiss(0, 0);
         due("nobody tells", x.man(2), 4);
         due("which", x.man(0), 0);
+        read(x, "q0,0,6;wzzz;wyyy;wxxx;waab;waac;waad;k1;k1;k1;s1;");
+        due("which", x.man(0), 3);
+        due("HOUR", x.man(1), 3);
+        due("how many", x.man(2), 3);
     }
 
     private static void fewest() {
@@ -785,6 +790,8 @@ public final class PromiseTest {
         due("one word", x.fewest(), 0);
         read(x, "q0,0,0;waaa;wfff;wbbb;d0;");
         due("two alike to the deaf", x.fewest(), NONE);
+        read(x, "q0,0,0;waaa;wfff;d1;d1;k1;");
+        due("by the keen one at hour 2", x.fewest(), 1);
         read(x, "q0,0,6;waaa;wbbb;e1;");
         due("sleepy, even night", x.fewest(), 1);
         x.nights(1);
@@ -1175,10 +1182,11 @@ public final class PromiseTest {
         x.say(1, 0);
         x.say(1, 0);
         x.say(0, 1);
+        x.say(1, 5);
         asked(x, 0, 0, 3 + (0 + 2), 11, 10, 21, 20);
         asked(x, 0, 1, 0 + 2, 21, 20);
-        asked(x, 1, 0, -(5 + 2 * (1 + 1)), 12, 11, 10, 24, 21, 20);
-        asked(x, 1, 1, 2 * (1 + 1), 24, 21, 20);
+        asked(x, 1, 0, -(5 + 2 * (1 + 2)), 12, 11, 10, 24, 21, 20);
+        asked(x, 1, 1, 2 * (1 + 2), 24, 21, 20);
         asked(x, 2, 0, 2 - 100, 13, 10);
         asked(x, 2, 1, 2 - (2 - 100), 23, 20, 13, 10);
         asked(x, 3, 0, 2 * (9 - 100), 14, 13, 10);
@@ -1224,13 +1232,13 @@ public final class PromiseTest {
         x.nights(1);
         x.say(3, 0);
         x.say(3, 1);
-        x.say(1, 3);
+        x.say(3, 3);
         x.start(8);
         x.dismiss(0, 0);
         x.feed(113);
         x.feed(113);
         x.feed(113);
-        int[] want = {2, 5, 4, 1, 3, 14, 6, 3, 8, 2};
+        int[] want = {2, 5, 4, 1, 3, 14, 6, 3, 8, 3};
         for (int what = 0; what < 10; what++) {
             due("count(" + what + ")", x.count(what), want[what]);
         }
@@ -1238,7 +1246,7 @@ public final class PromiseTest {
         due("count(-1)", x.count(-1), BAD);
         x.nights(1);
         due("tries of TONIGHT", x.count(4), 0);
-        due("all that GUARDS TOOK", x.count(9), 2);
+        due("all that GUARDS TOOK", x.count(9), 3);
     }
 
     private static void status() {
