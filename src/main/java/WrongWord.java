@@ -611,9 +611,9 @@ public final class WrongWord {
         int there;
         int tries;
 
-        void begin(int firstStart, int guards) {
+        /** The first night, its START being told already. */
+        void begin(int guards) {
             night = 0;
-            start = firstStart;
             there = (1 << guards) - 1;
             tries = 0;
             for (int i = 0; i < MOST_GUARDS; i++) {
@@ -726,7 +726,9 @@ public final class WrongWord {
         int distance(int word, int other) {
             int differ = 0;
             for (int i = 0; i < LETTERS; i++) {
-                differ += bit(letters[word * LETTERS + i] != letters[other * LETTERS + i]);
+                if (letters[word * LETTERS + i] != letters[other * LETTERS + i]) {
+                    differ++;
+                }
             }
             return differ;
         }
@@ -734,7 +736,9 @@ public final class WrongWord {
         int lips(int word, int other) {
             int alike = 0;
             for (int i = 0; i < LETTERS; i++) {
-                alike += bit(letters[word * LETTERS + i] % 5 == letters[other * LETTERS + i] % 5);
+                if (letters[word * LETTERS + i] % 5 == letters[other * LETTERS + i] % 5) {
+                    alike++;
+                }
             }
             return alike;
         }
@@ -974,7 +978,7 @@ public final class WrongWord {
                     return false;
                 }
             }
-            draft.now.begin(draft.now.start, draft.guards);
+            draft.now.begin(draft.guards);
             return true;
         }
 
