@@ -159,7 +159,7 @@ final class ActEdges extends Edges {
         x.due("count(9)", 0).due("undo()", STATE);
         undone(NINE, "nights(1)", 1);
         // Who tried on the night ahead is told of again, whoever came in between.
-        same(after(NINE, "nights(1)", "9 * say(0, 3)", "10 * undo()").view(), after(NINE).view(), "a night with tries, undone");
+        same(after(NINE, "nights(1)", "9 * say(0, 1)", "10 * undo()").view(), after(NINE).view(), "a night with tries, undone");
         same(after(BUSY, "nights(1)", "dismiss(3, 0)", "4 * say(2, 1)", "6 * undo()").view(), after(BUSY).view(), "a night with tries, undone");
         undone(with(GATE, "9 * say(1, 0)", "nights(2)", "say(0, 0)"), "nights(2)", 2);
         promise(13, "STATE: none.");
@@ -219,11 +219,11 @@ final class ActEdges extends Edges {
         // It can be restored again, and what is done behind it leaves the image alone.
         x.then("say(1, 0)", "dismiss(0, 0)", "start(9)", "nights(3)").due("restore(0)", 1).due("count(4)", 1).due("count(5)", 15);
         x.due("count(8)", 1).due("count(3)", 0).due("count(9)", 1);
-        same(after(NINE, "image(0)", "nights(1)", "9 * say(0, 3)", "restore(0)").standing(), after(NINE).standing(), "tries, restored");
+        same(after(NINE, "image(0)", "nights(1)", "9 * say(0, 1)", "restore(0)").standing(), after(NINE).standing(), "tries, restored");
         Calls y = after("read " + MOST, "image(1)", "read " + ONE).due("restore(1)", 1).due("count(1)", 6).due("count(2)", 4).due("letter(5, 0)", 5);
         y.due("guard(3, 0)", 9).due("kind(3)", 4).due("secret(0)", 3).due("count(5)", 15);
-        Calls z = after("read " + ONE, "image(1)", "read " + MOST).due("restore(1)", 1).due("count(1)", 1).due("count(2)", 1).due("letter(1, 0)", BAD);
-        z.due("guard(1, 0)", BAD).due("secret(1)", 0).due("count(5)", 1);
+        Calls z = after("read " + ONE, "image(1)", "read " + MOST).due("restore(1)", 1).due("count(1)", 1).due("count(2)", 1);
+        z.due("letter(1, 0)", BAD).due("guard(1, 0)", BAD).due("secret(1)", 0).due("count(5)", 1);
         promise(34, "BAD");
         bounds(with(BUSY, "image(1)"), "restore(#)", 0, 1);
         refused(NO_GATE, BAD, "restore(2)", "restore(-1)", "restore(MIN)", "restore(MAX)");

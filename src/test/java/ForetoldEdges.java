@@ -4,6 +4,8 @@ final class ForetoldEdges extends Edges {
     private static final String LAST_OF_SIX = "q5,0,6;waaa;wbbb;wccc;wddd;weee;wmlk;k1;";
     /** The secret is 0; which words are taken tells a keen (or sleepy) one, a sharp, a deaf one and a sergeant apart. */
     private static final String HEARD = "q0,0,0;waaa;waab;wabb;wbbb;wfaa;wffa;";
+    /** To a sharp one word 5 parts the words in 3, 4, 5 and 0, 1, 2; no other word does so. To the deaf no two are one. */
+    private static final String LAST_TELLS = "q0,0,6;wxyz;wyzx;wzxy;wbaa;waba;waaa;";
     /** Word 0 is taken first, then the secret is another by START: no word agrees with both. */
     private static final String[] NONE_AGREES = {"read " + SIX, "say(0, 0)", "start(1)", "say(0, 0)", "set(3, 0, 0)"};
 
@@ -94,6 +96,9 @@ final class ForetoldEdges extends Edges {
         // All words are one to the deaf; the keen one is on at hour 3 alone.
         manIs(with(NEW, "read q0,0,6;waaa;wfff;wkkk;wppp;wuuu;wzzz;d0;d0;d0;k0;"), 0, 3, 5);
         manIs(with(NEW, "read q0,0,6;waaa;wfff;wkkk;wppp;wuuu;wzzz;d0;d0;d0;k0;", "nights(4)"), 0, 3, 5);
+        // The last word alone is one letter off two others; the sharp one is on at the last of the hours that differ.
+        manIs(with(NEW, "read " + LAST_TELLS + "s0;"), 5, 0, 3);
+        manIs(with(NEW, "read " + LAST_TELLS + "d0;d0;d0;s0;"), 5, 3, 3);
         promise(24, "MAN: which (what = 0), HOUR (1), how many (2).");
         // Three words agree once the keen one let 0 by and the sharp one took it: 1 and 4; the deaf one tells them apart.
         manIs(with(GATE, "say(0, 0)", "say(0, 1)"), 0, 2, 1);
@@ -118,8 +123,13 @@ final class ForetoldEdges extends Edges {
         after("read q0,0,6;waaa;wbbb;k0;").due("fewest()", 1).then("dismiss(0, 0)").due("fewest()", NONE);
         after("read q0,0,6;waaa;wfff;d0;").due("fewest()", NONE);
         // The keen one alone tells, on at hour 3.
-        after("read q0,0,6;waaa;wfff;d0;d0;d0;k0;").due("fewest()", 1).then("nights(2)").due("fewest()", 1).then("dismiss(3, 0)").due("fewest()", NONE);
+        Calls y = after("read q0,0,6;waaa;wfff;d0;d0;d0;k0;").due("fewest()", 1).then("nights(2)").due("fewest()", 1);
+        y.then("dismiss(3, 0)").due("fewest()", NONE);
         after("read q0,0,6;waaa;wfff;wkkk;d0;d0;d0;k0;").due("fewest()", 2);
+        // Only if the first says the last word, or word 3 of these, to the sharp one, three are enough.
+        after("read " + LAST_TELLS + "s0;").due("fewest()", 3);
+        after("read " + LAST_TELLS + "d0;d0;d0;s0;").due("fewest()", 3).then("dismiss(3, 0)").due("fewest()", 5);
+        after("read q0,0,6;wxyz;wyzx;wzxy;waaa;wbaa;waba;d0;d0;d0;s0;").due("fewest()", 3);
         // The second man is sent by what came of the first.
         after("read q0,0,6;waaa;waab;wzzz;wzzy;s0;k0;").due("fewest()", 2);
         after("read q0,0,6;waaa;waab;wzzz;wzzy;s0;").due("fewest()", NONE);

@@ -61,6 +61,7 @@ final class RowEdges extends Edges {
         x.due("row(1, 1, 3)", 3).due("rules(1, 0, 1, 0)", 65).due("rules(1, 2, 1, 0)", 65).due("set(1, 0, 300)", 300);
         x.due("row(1, 1, 3)", 3).due("rules(1, 0, 1, 0)", 65);
         x.due("row(1, 1, 0)", 0).due("rules(1, 0, 1, 0)", PLACE).due("count(0)", 1);
+        x.then("row(1, 1, 40)", "set(1, 39, 5)").due("rules(1, 39, 1, 0)", 32).due("row(1, 1, 40)", 40).due("rules(1, 39, 1, 0)", 65);
     }
 
     private static void rowIsRefused() {
