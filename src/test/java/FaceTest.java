@@ -9,17 +9,11 @@ import java.util.TreeSet;
 import java.util.regex.Matcher;
 import java.util.regex.Pattern;
 
-/** The public face is the document's, and the source keeps to what can be seen of LANGUAGE.md by its words. */
+/** The public face is the one that ../shared/DOC.md tells, and no member can be seen besides. */
 public final class FaceTest {
-    private static final String[] METHODS = {
-        "row 3", "set 3", "copy 5", "drop 1", "feed 1", "gate 0", "fault 0", "nights 1", "say 2", "start 1", "dismiss 2",
-        "undo 0", "letter 2", "like 3", "guard 2", "tried 2", "secret 1", "taken 3", "safe 2", "open 2", "next 1",
-        "agree 0", "man 1", "fewest 0", "march 4", "cheap 3", "near 2", "rules 4", "fits 4", "sure 4", "drawn 3",
-        "image 1", "restore 1", "kind 1", "as 2", "ask 2", "trace 1", "count 1", "status 0"};
-    private static final String[] FORBIDDEN = {
-        "throw", "throws", "try", "catch", "finally", "synchronized", "assert", "import", "package", "hashCode",
-        "volatile", "native", "protected", "transient", "System.out", "System.nano", "System.current", "Random", "Thread",
-        "Object", "toString", "yield", "var", "Exact", "Override"};
+    private static final Pattern METHOD = Pattern.compile("public int (\\w+)\\(((?:int \\w+(?:, )?)*)\\);");
+    private static final Pattern CONSTANT = Pattern.compile("(\\w+) = (-\\d+)");
+    private static final int CALLS = 39;
     private static int wrong = 0;
 
     private static void say(String what) {
@@ -28,41 +22,34 @@ public final class FaceTest {
     }
 
     public static void main(String[] args) throws Exception {
-        methods();
-        members();
-        nested();
-        source();
+        String document = Files.readString(Path.of("../shared/DOC.md"));
+        int from = document.indexOf("```java");
+        String face = document.substring(from, document.indexOf("```", from + 3));
+        methods(face);
+        constants(face);
+        others();
         System.out.println(wrong == 0 ? "the face is as told" : wrong + " things are not as told");
         if (wrong != 0) {
             System.exit(1);
         }
     }
 
-    private static void methods() {
+    private static void methods(String face) {
         Set<String> due = new TreeSet<>();
-        for (String m : METHODS) {
-            due.add(m);
+        Matcher told = METHOD.matcher(face);
+        while (told.find()) {
+            due.add(told.group(1) + " " + (told.group(2).isEmpty() ? 0 : told.group(2).split(", ").length));
         }
-        Set<String> names = new TreeSet<>();
-        for (String m : METHODS) {
-            names.add(m.substring(0, m.indexOf(' ')));
+        if (due.size() != CALLS) {
+            say("the document's face was not read: " + due);
         }
         Set<String> got = new TreeSet<>();
         for (Method m : WrongWord.class.getDeclaredMethods()) {
-            int mods = m.getModifiers();
-            if (Modifier.isPublic(mods)) {
+            if (Modifier.isPublic(m.getModifiers())) {
                 got.add(m.getName() + " " + m.getParameterCount());
-                boolean ints = m.getReturnType() == int.class && !Modifier.isStatic(mods);
-                for (Class<?> p : m.getParameterTypes()) {
-                    ints &= p == int.class;
-                }
-                if (!ints) {
-                    say("not of ints, or static: " + m);
-                }
-            } else if (!Modifier.isPrivate(mods)) {
+                ofInts(m);
+            } else if (!Modifier.isPrivate(m.getModifiers())) {
                 say("neither public nor private: " + m);
-            } else if (names.contains(m.getName())) {
-                say("a private method with a public one's name: " + m);
             }
         }
         if (!got.equals(due)) {
@@ -70,73 +57,55 @@ public final class FaceTest {
         }
     }
 
-    private static void members() {
+    private static void ofInts(Method m) {
+        boolean ints = m.getReturnType() == int.class && !Modifier.isStatic(m.getModifiers()) && m.getExceptionTypes().length == 0;
+        for (Class<?> p : m.getParameterTypes()) {
+            ints &= p == int.class;
+        }
+        if (!ints) {
+            say("not of ints, static, or with exceptions: " + m);
+        }
+    }
+
+    private static void constants(String face) throws Exception {
+        Set<String> due = new TreeSet<>();
+        Matcher told = CONSTANT.matcher(face);
+        while (told.find()) {
+            due.add(told.group(1) + " " + told.group(2));
+        }
+        if (due.size() != 4) {
+            say("the document's constants were not read: " + due);
+        }
+        Set<String> got = new TreeSet<>();
+        for (Field f : WrongWord.class.getDeclaredFields()) {
+            if (Modifier.isPublic(f.getModifiers())) {
+                got.add(f.getName() + " " + f.get(null));
+                if (f.getType() != int.class || !Modifier.isStatic(f.getModifiers()) || !Modifier.isFinal(f.getModifiers())) {
+                    say("no constant of int: " + f);
+                }
+            } else if (!Modifier.isPrivate(f.getModifiers())) {
+                say("neither public nor private: " + f);
+            }
+        }
+        if (!got.equals(due)) {
+            say("public constants: " + got);
+        }
+    }
+
+    private static void others() {
         if (WrongWord.class.getModifiers() != (Modifier.PUBLIC | Modifier.FINAL)) {
             say("the class is not public and final alone");
+        }
+        if (WrongWord.class.getSuperclass() != Object.class || WrongWord.class.getInterfaces().length != 0) {
+            say("the class is more than itself");
         }
         Constructor<?>[] made = WrongWord.class.getDeclaredConstructors();
         if (made.length != 1 || !Modifier.isPublic(made[0].getModifiers()) || made[0].getParameterCount() != 0) {
             say("the constructor is not as told");
         }
-        Set<String> constants = new TreeSet<>();
-        for (Field f : WrongWord.class.getDeclaredFields()) {
-            if (Modifier.isPublic(f.getModifiers())) {
-                constants.add(f.getName());
-            } else if (!Modifier.isPrivate(f.getModifiers())) {
-                say("neither public nor private: " + f);
-            }
-            if (Modifier.isStatic(f.getModifiers()) && !Modifier.isFinal(f.getModifiers())) {
-                say("static, but not final: " + f);
-            }
-        }
-        if (!constants.equals(Set.of("NONE", "BAD", "STATE", "FULL"))) {
-            say("public constants: " + constants);
-        }
-    }
-
-    private static void nested() {
-        Class<?>[] inside = WrongWord.class.getDeclaredClasses();
-        if (inside.length > 11) {
-            say("more than some twelve classes");
-        }
-        for (Class<?> c : inside) {
-            if (!Modifier.isStatic(c.getModifiers()) || Modifier.isPublic(c.getModifiers())) {
-                say("not static, or public: " + c);
-            }
-            int own = 0;
-            for (Field f : c.getDeclaredFields()) {
-                own += Modifier.isStatic(f.getModifiers()) ? 0 : 1;
-                if (Modifier.isStatic(f.getModifiers()) && !Modifier.isFinal(f.getModifiers())) {
-                    say("static, but not final: " + f);
-                }
-            }
-            if (own > 20) {
-                say("more than some twenty fields: " + c);
-            }
-            for (Method m : c.getDeclaredMethods()) {
-                if (m.getParameterCount() > 7) {
-                    say("more than seven parameters: " + m);
-                }
-            }
-        }
-    }
-
-    private static void source() throws Exception {
-        String text = Files.readString(Path.of("src/main/java/WrongWord.java"));
-        String bare = Pattern.compile("/\\*.*?\\*/|//[^\n]*", Pattern.DOTALL).matcher(text).replaceAll(" ");
-        for (String word : FORBIDDEN) {
-            Matcher m = Pattern.compile("\\b" + Pattern.quote(word) + "\\b").matcher(bare);
-            if (m.find()) {
-                say("the source has " + word);
-            }
-        }
-        if (bare.contains("->") || bare.contains("::") || bare.contains("\"")) {
-            say("the source has a lambda, a method reference or a text");
-        }
-        for (int i = 0; i < text.length(); i++) {
-            if (text.charAt(i) > 127) {
-                say("a sign above 127 at " + i);
-                break;
+        for (Class<?> c : WrongWord.class.getDeclaredClasses()) {
+            if (Modifier.isPublic(c.getModifiers()) || Modifier.isProtected(c.getModifiers())) {
+                say("a class inside that can be seen: " + c);
             }
         }
     }
